@@ -101,6 +101,11 @@ public final class JudgesTest {
         Check.due("two above less one below is no more", club.winner(), 6);
         give(club, 12, 5, 5, 6, 6);
         Check.due("two above", club.winner(), 12);
+        give(club, 13, 5, 5, 5, 10, 10, 10);
+        Check.due("three at the greatest mark", club.winner(), 13);
+        club.mark(5, 13, BookClub.NONE);
+        club.mark(4, 13, BookClub.NONE);
+        Check.due("two above again", club.winner(), 12);
         club.kin(3, 12, true);
         Check.due("only those that count", club.winner(), 6);
 
@@ -124,6 +129,8 @@ public final class JudgesTest {
         Check.due("the least number", club.winner(), 5);
         give(club, 2, 6, 7, 8);
         Check.due("one above and one below are as none", club.winner(), 2);
+        give(club, 0, 7, 7, 7);
+        Check.due("those at the middle are neither", club.winner(), 0);
     }
 
     private static void winnerAtMarksOfNothing() {

@@ -9,6 +9,7 @@ public final class LedgerTest {
         balanceRefuses();
         monthsNeedTwoHundredEntries();
         nineHundredEntries();
+        theLastEntryMayBeAGiftOrPaidOut();
         Check.finish();
     }
 
@@ -84,25 +85,26 @@ public final class LedgerTest {
         Check.due("balance(0, 0, 61)", Check.balance(club, 0, 0, 61), Check.THROWS);
     }
 
-    /** Thirty-nine in house 0 and, with two entries each a month, 78 of them a month. */
+    /** Thirty-nine in house 0 and, with two entries each a month, 78 of them a month: far below 512 calls. */
     private static BookClub filledUpTo(int entries) {
         BookClub club = Check.clubWith("bonus=1,part=100,gift=1@20");
         for (int i = 0; i < 39; i++) {
             club.join(0, 0);
         }
-        while (club.count(5) + 78 <= Math.min(entries, 700)) {
+        int made = 0;
+        for (; made + 78 <= Math.min(entries, 700); made += 78) {
             club.choice(1, 39);
             club.close();
         }
-        while (club.count(5) < entries) {
+        for (; made < entries; made++) {
             club.pay(0, 1);
         }
+        Check.due("entries made", club.count(5), entries);
         return club;
     }
 
     private static void monthsNeedTwoHundredEntries() {
         BookClub club = filledUpTo(700);
-        Check.due("entries", club.count(5), 700);
         Check.due("close with 200 left", club.close(), 0);
         club.pay(0, 1);
         int month = club.count(0);
@@ -134,5 +136,24 @@ public final class LedgerTest {
         Check.due("close", club.close(), -1);
         Check.due("the last one can be struck", club.strike(899), true);
         Check.due("no room comes by striking", club.pay(0, 1), REFUSED);
+    }
+
+    private static void theLastEntryMayBeAGiftOrPaidOut() {
+        BookClub gift = filledUpTo(899);
+        Check.tell(gift, "gift=1");
+        Check.due("a join with the last entry", gift.join(0, 1), 39);
+        Check.entryDue(gift, 899, 39, gift.count(0), 0, 1);
+
+        BookClub out = filledUpTo(899);
+        long due = Check.member(out, 0, 5);
+        Check.due("a leave with the last entry", out.leave(0), due);
+        Check.entryDue(out, 899, 0, out.count(0), 6, -due);
+
+        BookClub one = filledUpTo(898);
+        one.pay(1, 1);
+        one.pay(0, 1);
+        Check.tell(one, "gift=1");
+        Check.due("a leave with 1 to pay out, without room", one.leave(1), -1);
+        Check.due("a join with a gift of 1, without room", one.join(0, 1), -1);
     }
 }

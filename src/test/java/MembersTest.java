@@ -8,6 +8,7 @@ public final class MembersTest {
         fortyMembers();
         giftsOnceAHouse();
         giftOfTheMonth();
+        giftOfOne();
         moving();
         paying();
         payingWhatIsOwed();
@@ -99,6 +100,14 @@ public final class MembersTest {
         Check.due("not a second", Check.member(club, 2, 5), 0);
         club.join(0, 1);
         Check.due("the next month's gift", Check.member(club, 3, 5), 4);
+    }
+
+    private static void giftOfOne() {
+        BookClub club = Check.clubWith("gift=1");
+        club.join(0, 0);
+        Check.entryDue(club, 0, 0, 0, 0, 1);
+        Check.due("one is paid out", club.leave(0), 1);
+        Check.entryDue(club, 1, 0, 0, 6, -1);
     }
 
     private static void moving() {

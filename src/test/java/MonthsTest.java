@@ -4,12 +4,14 @@ public final class MonthsTest {
         choices();
         refusals();
         inTimeOrNot();
+        refusalsOnTheFirstDay();
         limitIsThatOfTheMonthsEnd();
         sending();
         shortOfStock();
         takingBack();
         takingBackFromEndedOnes();
         takingBackAtNoPrice();
+        takingBackOnceAlone();
         onlyThoseWhoWereSentGiveBack();
         fineOfTheMonthThatEnds();
         bonuses();
@@ -82,6 +84,21 @@ public final class MonthsTest {
         Check.due("in time is not short", Check.member(club, 0, 8), 0);
         Check.due("late", Check.member(club, 1, 7), 1);
         Check.due("without a refusal", Check.member(club, 2, 7), 1);
+    }
+
+    private static void refusalsOnTheFirstDay() {
+        BookClub club = Check.clubWith("limit=1,limit=0@1");
+        club.join(0, 0);
+        club.lag(0, 0);
+        club.choice(1, 1);
+        Check.due("comes on day 1", club.refuse(0, 1), 1);
+        Check.due("it did", club.refuse(0, 2), -1);
+        Check.due("in time on day 1", club.close(), 0);
+        club.choice(1, 1);
+        club.refuse(0, 1);
+        Check.due("late on day 1", club.close(), 1);
+        club.close();
+        Check.due("taken back", club.book(1, 4), 1);
     }
 
     private static void limitIsThatOfTheMonthsEnd() {
@@ -185,6 +202,21 @@ public final class MonthsTest {
         club.close();
         Check.due("taken back", club.book(0, 4), 1);
         Check.due("there was no VOLUME to take back", club.count(5), 0);
+    }
+
+    private static void takingBackOnceAlone() {
+        BookClub club = Check.clubWith("limit=0,late=10,dun=2@1");
+        club.join(0, 0);
+        club.choice(50, 1);
+        club.refuse(0, 1);
+        club.close();
+        for (int month = 1; month <= 3; month++) {
+            club.choice(20, 0);
+            club.close();
+            Check.due("of month 0, behind month " + month, club.book(0, 4), 1);
+            Check.due("of month " + month, club.book(month, 4), 0);
+        }
+        Check.due("entries", club.count(5), 3);
     }
 
     private static void onlyThoseWhoWereSentGiveBack() {

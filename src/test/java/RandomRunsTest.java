@@ -1,7 +1,10 @@
 import java.util.NoSuchElementException;
 import java.util.Random;
 
-/** Runs of 512 calls by chance (always the same ones): nothing but the document's exception, and sums that agree. */
+/**
+ * Runs of 512 calls by chance (always the same ones): nothing but the document's exception, and sums that agree.
+ * The sums are read by calls beyond the 512th: the document leaves those free, this class answers them all the same.
+ */
 public final class RandomRunsTest {
     private static final int RUNS = 400;
     private static final int CALLS = 512;

@@ -110,6 +110,7 @@ public final class RulesTest {
         faultDue("a name behind a number", "gift=1 late=1", 1, 7);
         faultDue("two months", "gift=1@2@3", 1, 8);
         faultDue("a letter for a month", "gift=1@x", 1, 7);
+        faultDue("no value ahead of a bad month", "gift=@x", 1, 5);
         faultDue("a month without a value", "gift@1=1", 1, 4);
         faultDue("a digit behind a name", "gift1=1", 1, 4);
         faultDue("a nul behind all", "gift=1\0", 1, 6);
@@ -129,6 +130,8 @@ public final class RulesTest {
 
     private static void lettersThatAreNoName() {
         faultDue("too short", "gif=1", 1, 0);
+        faultDue("another first letter", "lift=1", 1, 0);
+        faultDue("another last letter", "gifs=1", 1, 0);
         faultDue("too long", "gifts=1", 1, 0);
         faultDue("two names", "giftlate=1", 1, 0);
         faultDue("second statement", "gift=1, foo=2", 1, 8);
