@@ -146,6 +146,8 @@ public final class RulesTest {
         Check.due("gift", club.rule(3, 60), 5);
         faultDue("10001", "gift=10001", 2, 5);
         faultDue("month 61", "gift=1@61", 2, 7);
+        faultDue("ten times the greatest value", "gift=100000", 2, 5);
+        faultDue("ten times the greatest month", "gift=1@600", 2, 7);
         faultDue("blanks ahead of it", "gift=  10001", 2, 7);
         faultDue("one that wraps an int", "gift=4294967297", 2, 5);
         faultDue("one that wraps a long", "gift=18446744073709551617", 2, 5);
