@@ -8,14 +8,27 @@ final class Check {
     static final long THROWS = Long.MIN_VALUE;
 
     private static int wrong = 0;
+    private static String sentence = "";
 
     private Check() {
+    }
+
+    /** The document's words to which the comparisons that follow hold the class: a failure tells them. */
+    static void sentence(String words) {
+        sentence = "\"" + words + "\": ";
     }
 
     static void due(String what, long got, long want) {
         if (got != want) {
             wrong++;
-            System.out.println(what + " answered " + show(got) + ", due is " + show(want));
+            System.out.println(sentence + what + " answered " + show(got) + ", due is " + show(want));
+        }
+    }
+
+    static void due(String what, String got, String want) {
+        if (!got.equals(want)) {
+            wrong++;
+            System.out.println(sentence + what + " answered\n  " + got + ", due is\n  " + want);
         }
     }
 
@@ -85,6 +98,43 @@ final class Check {
         BookClub club = new BookClub();
         tell(club, text);
         return club;
+    }
+
+    /** A club with rules and members of kind 0 in house 0. */
+    static BookClub clubWith(String text, int members) {
+        BookClub club = clubWith(text);
+        joinTimes(club, members);
+        return club;
+    }
+
+    /** A club without rules. */
+    static BookClub clubOf(int members) {
+        BookClub club = new BookClub();
+        joinTimes(club, members);
+        return club;
+    }
+
+    private static void joinTimes(BookClub club, int members) {
+        for (int i = 0; i < members; i++) {
+            club.join(0, 0);
+        }
+    }
+
+    /** Tells the month's choice and ends the month: how many were sent. */
+    static int send(BookClub club, int price, int print) {
+        club.choice(price, print);
+        return club.close();
+    }
+
+    static void closeTimes(BookClub club, int times) {
+        for (int i = 0; i < times; i++) {
+            club.close();
+        }
+    }
+
+    /** Refused numbers of every size below and above what is allowed, the ends of int among them. */
+    static int[] outside(int least, int most) {
+        return new int[] {Integer.MIN_VALUE, -most - 1, least - 1, most + 1, most + 256, Integer.MAX_VALUE};
     }
 
     private static int number(byte[] row, int at) {
