@@ -8,6 +8,7 @@ public final class MonthEndEdgesTest {
         thoseNotSentGiveNothingBack();
         thoseWhoDidNotRefuseGiveNothingBack();
         refusalsOfTheMonthAheadAlone();
+        takenBackOnceThoughNotSentAgain();
         noMonthAheadOfTheFirst();
         takenBackIntoItsOwnStock();
         takenBackWhatTheVolumeWas();
@@ -62,6 +63,8 @@ public final class MonthEndEdgesTest {
         none.lag(0, 0);
         Check.due("the earliest day", none.refuse(0, 1), 1);
         Check.due("limit 0: never in time", Check.send(none, 1, 1), 1);
+        none.close();
+        Check.due("limit 0: taken back", none.book(0, 4), 1);
         BookClub first = Check.clubWith("limit=1", 1);
         first.lag(0, 0);
         first.refuse(0, 1);
@@ -148,6 +151,25 @@ public final class MonthEndEdgesTest {
             Check.due("of month " + month, club.book(month, 4), 0);
         }
         Check.due("entries", club.count(5), 6);
+    }
+
+    private static void takenBackOnceThoughNotSentAgain() {
+        Check.sentence("those whose REFUSAL of the MONTH ahead was not in TIME and who were SENT it");
+        BookClub club = Check.clubWith("limit=0,late=10,dun=1", 3);
+        club.pay(0, 100);
+        club.pay(2, 100);
+        for (int member = 0; member < 3; member++) {
+            club.refuse(member, 1);
+        }
+        Check.send(club, 50, 3);
+        Check.due("1 is dunned", Check.member(club, 1, 2), 1);
+        club.leave(2);
+        for (int month = 1; month <= 3; month++) {
+            Check.due("0 is short, 1 dunned, 2 ended", Check.send(club, 20, 0), 0);
+            Check.due("taken back of month 0, behind month " + month, club.book(0, 4), 3);
+            Check.due("taken back of month " + month, club.book(month, 4), 0);
+            Check.due("entries behind month " + month, club.count(5), 12);
+        }
     }
 
     private static void noMonthAheadOfTheFirst() {

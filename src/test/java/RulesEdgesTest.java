@@ -213,6 +213,9 @@ public final class RulesEdgesTest {
         faultDue("no name ahead of 2", "foo=99999", 1, 0);
         faultDue("two of 2", "gift=99999@99", 2, 5);
         faultDue("1 ahead of 2", "gift=1;late=99999", 1, 6);
+        faultDue("1 at a number that is too large", "gift 99999", 1, 5);
+        faultDue("1 at a number, 2 behind it", "gift 1,late=99999", 1, 5);
+        faultDue("1 at a number, no name behind it", "gift 1,foo=1", 1, 5);
         faultDue("2 ahead of the end", "gift=1@61,", 2, 7);
         BookClub full = withRules(60);
         faultOf(full, "3 ahead of 1", "gift#", 3, 0);
