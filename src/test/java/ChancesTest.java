@@ -31,7 +31,8 @@ public final class ChancesTest {
             int kinds = (int) (0x6C1B93L * n % (1 << (2 * n)));
             BigInteger[] ways = allCases(n, kinds, percents);
             for (int k = 0; k <= n; k++) {
-                Check.due("ways(" + n + ", " + kinds + ", " + k + ")", club.ways(n, kinds, k), ways[k].longValueExact());
+                Check.due("ways(" + n + ", " + kinds + ", " + k + ")",
+                        club.ways(n, kinds, k), ways[k].longValueExact());
             }
             for (int[] rate : rates) {
                 Check.due("print(" + n + ", " + kinds + ", " + rate[0] + ", " + rate[1] + ")",

@@ -9,12 +9,12 @@ import java.util.Random;
  */
 public final class TwinRunsTest {
     private static final int CALLS = 512;
-    private static final int[] EDGES = {Integer.MIN_VALUE, -2, -1, 0, 1, 2, 3, 4, 5, 7, 8, 9, 10, 19, 20, 21, 30, 31, 39,
-        40, 59, 60, 61, 99, 100, 101, 699, 700, 701, 899, 900, 1000, 1001, 5000, 5001, 65535, 65536, 100000, 100001,
+    private static final int[] EDGES = {Integer.MIN_VALUE, -2, -1, 0, 1, 2, 3, 4, 5, 7, 8, 9, 10, 19, 20, 21, 30, 31,
+        39, 40, 59, 60, 61, 99, 100, 101, 899, 900, 1000, 1001, 5000, 5001, 65535, 65536, 100000, 100001,
         Integer.MAX_VALUE};
-    private static final String[] PIECES = {"limit", "late", "bonus", "gift", "debt", "dun", "end", "part", "=", "=", "=",
-        "0", "5", "60", "61", "10000", "10001", "007", "@", "@", ",", ",", " ", "  ", "x", "limi", "endd", "L", "-", "\0",
-        "\u00e9", "/", ":", "`", "{", "?", "A", "<", ">", "\t", "+", "-1"};
+    private static final String[] PIECES = {"limit", "late", "bonus", "gift", "debt", "dun", "end", "part", "=", "=",
+        "0", "5", "60", "61", "10000", "10001", "007", "@", "@", ",", ",", " ", "  ", "x", "limi", "xdun", "rate", "L",
+        "-", "\0", "\u00e9", "/", ":", "`", "{", "?", "A", "<", ">", "\t", "+", "-1", "99999999999999999999"};
 
     private enum Style { MIXED, BUSY, TEXTS, JUDGES, DEBTS }
 
@@ -26,7 +26,8 @@ public final class TwinRunsTest {
 
     private TwinRunsTest(int run) {
         this.run = run;
-        random = new Random(run);
+        // neighbouring seeds give first numbers that are almost alike
+        random = new Random(run * 0x9E3779B97F4A7C15L);
     }
 
     public static void main(String[] args) {
@@ -58,7 +59,8 @@ public final class TwinRunsTest {
 
     private void ask(String name, int... a) {
         calls++;
-        Check.due("run " + run + ", call " + calls + ": " + name + Arrays.toString(a), ofClub(name, a), ofPlain(name, a));
+        String call = "run " + run + ", call " + calls + ": " + name + Arrays.toString(a);
+        Check.due(call, ofClub(name, a), ofPlain(name, a));
     }
 
     private static long number(boolean is) {
@@ -145,9 +147,12 @@ public final class TwinRunsTest {
     private void begin(Style style) {
         if (style == Style.BUSY) {
             tell("limit=" + below(30) + ",late=" + below(120) + ",bonus=1,dun=0,end=0,gift=" + below(3));
-            for (int i = 0; i < 40; i++) {
-                ask("join", below(4), below(10));
+            for (int i = 36 + below(5); i > 0; i--) {
+                ask("join", below(4), below(7));
             }
+        }
+        if (style == Style.TEXTS && below(2) == 0) {
+            fillRules();
         }
         if (style == Style.DEBTS) {
             tell("debt=" + below(60) + ",dun=" + below(4) + ",end=" + below(7) + ",limit=" + below(20));
@@ -173,6 +178,9 @@ public final class TwinRunsTest {
             fillStep();
             return;
         }
+        for (int edge = 699 + below(4); club.count(5) > 660 && club.count(5) < edge;) {
+            ask("pay", below(36), 1 + below(50));
+        }
         ask("choice", below(3) == 0 ? below(5) : below(300), 20 + below(40));
         for (int i = below(25); i > 0; i--) {
             ask("refuse", about(40), 1 + below(30));
@@ -181,25 +189,59 @@ public final class TwinRunsTest {
         readSomething();
     }
 
+    /** Behind the last month that there is room for: payments, and with the last entries whatever makes one. */
     private void fillStep() {
-        switch (below(8)) {
-            case 0: ask("join", below(4), below(10)); break;
-            case 1: ask(below(5) == 0 ? "leave" : "count", below(40)); break;
-            case 2: ask("strike", below(900)); break;
-            case 3: ask("close"); break;
-            default: ask("pay", about(40), 1 + below(50)); break;
+        if (club.count(5) < 898) {
+            ask("pay", about(40), 1 + below(50));
+            return;
         }
+        switch (below(12)) {
+            case 0: case 1: ask("join", below(4), below(10)); break;
+            case 2: ask("leave", below(40)); break;
+            case 3: ask("strike", below(900)); break;
+            case 4: ask("close"); break;
+            case 5: tell("gift=" + below(2)); break;
+            case 6: ask("pay", about(40), 1); break;
+            default: readSomething(); break;
+        }
+    }
+
+    /** Up to sixty rules and beyond, with texts of up to all the bytes that the tape holds. */
+    private void fillRules() {
+        for (int i = 0; i < 4; i++) {
+            tell("dun=3,".repeat(below(33)) + "late=" + "0".repeat(below(9)) + below(9));
+            ask("fault", 0);
+            ask("fault", 1);
+            ask("count", 6);
+        }
+    }
+
+    private void tapeStep() {
+        for (int i = below(12); i > 0; i--) {
+            ask("feed", random.nextInt(), random.nextInt(), random.nextInt(), random.nextInt(), random.nextInt());
+        }
+        ask("end", below(2) == 0 ? 178 + below(5) : about(203));
+        ask("feed", 0x6c617465, 0x3d352c20, below(9), about(9), random.nextInt());
+        ask("count", 7);
+    }
+
+    private void printStep() {
+        for (int i = below(8); i > 0; i--) {
+            ask("choice", 4999 + below(3), 999 + below(3));
+        }
+        ask("choice", below(9), below(6));
+        ask("clear", club.count(0), below(2), below(6));
     }
 
     private void debtStep() {
         switch (below(12)) {
             case 0: ask("pay", about(8), 1 + below(150)); break;
             case 1: ask("strike", about(60)); break;
-            case 2: ask("refuse", about(8), about(31)); break;
+            case 2: ask("refuse", about(8), below(3) == 0 ? 1 : about(33)); break;
             case 3: ask("move", about(8), about(10)); break;
-            case 4: ask("lag", about(10), about(21)); break;
+            case 4: ask("lag", about(10), below(2) == 0 ? 0 : about(21)); break;
             case 5: ask(below(4) == 0 ? "leave" : "count", about(8)); break;
-            case 6: ask("clear", about(20), about(2), about(4)); break;
+            case 6: ask("clear", about(20), below(4) - 1, about(4)); break;
             case 7: ask("balance", about(8), about(30), about(30)); break;
             case 8: if (below(4) == 0) tell(oneRule()); break;
             default: ask("choice", below(90), below(9)); ask("close"); break;
@@ -215,7 +257,7 @@ public final class TwinRunsTest {
             case 4: ask("kin", about(9), about(5), below(2)); break;
             case 5: ask("winner"); break;
             case 6: ask("middle", about(6)); break;
-            default: ask("mark", about(9), about(5), below(12) - 1); break;
+            default: ask("mark", about(9), about(5), below(14) - 2); break;
         }
     }
 
@@ -262,8 +304,8 @@ public final class TwinRunsTest {
 
     private void mixedStep() {
         switch (below(20)) {
-            case 0: ask("feed", below(9), about(9), 0x6c617465, 0x3d352c20, random.nextInt()); break;
-            case 1: ask("end", about(200)); break;
+            case 0: tapeStep(); break;
+            case 1: printStep(); break;
             case 2: ask("rules"); ask("fault", about(2)); ask("fault", about(2)); break;
             case 3: tell(oneRule()); break;
             case 4: ask("rule", about(8), about(61)); break;
@@ -273,8 +315,8 @@ public final class TwinRunsTest {
             case 9: ask("choice", about(50), about(9)); break;
             case 10: ask("close"); break;
             case 11: ask("count", about(8)); break;
-            case 12: ask("pay", about(20), about(100001)); break;
-            case 13: ask("refuse", about(20), about(31)); break;
+            case 12: ask("pay", about(20), below(4) == 0 ? 99999 + below(3) : about(100001)); break;
+            case 13: ask("refuse", about(20), about(33)); break;
             default: debtStep(); break;
         }
     }
